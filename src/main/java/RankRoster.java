@@ -750,7 +750,7 @@ public final class RankRoster {
         }
 
         boolean isLegal(int person, int line) {
-            return isIn(person, legalFor[line]);
+            return ((legalFor[line] >> person) & 1) == 1;
         }
 
         int coverBy(int group, int set) {
