@@ -446,6 +446,12 @@ public final class BoundaryGivingTest {
             Cases.due(x.line(0), 3);
             Cases.due(x.denied(1, 0), NOT_LEFT);
         });
+        Cases.test("2: the line of all duties alone would meet it", () -> {
+            RankRoster x = alike(2, 0, 2);
+            x.wish(1, 5, 16);
+            x.give();
+            Cases.due(x.denied(1, 0), NOT_LEFT);
+        });
         Cases.test("2: out of what is left only against a wish ahead that is met", () -> {
             RankRoster x = Cases.ofDuties(row(0, 1, 8, 0, 0), row(0, 1, 8, 0, 1));
             x.person(1, 200);
@@ -598,6 +604,17 @@ public final class BoundaryGivingTest {
             x.wish(0, 0, 0);
             return x;
         }, x -> x.ahead(0, 0));
+        Cases.look("who was ahead and is behind by the new order counts for COVER", 0, () -> {
+            RankRoster x = alike(2, 0);
+            x.wish(1, 4, 0);
+            return x;
+        }, x -> x.ahead(1, 0));
+        Cases.test("it may be the first call of all that looks", () -> {
+            Cases.due(alike(2, 0, 0).ahead(1, 0), 1);
+            RankRoster x = Cases.givenMonth();
+            x.rule(2, 1);
+            Cases.due(x.ahead(0, 0), 1);
+        });
         Cases.look("those ahead by the new order count for COVER no more", 2, () -> {
             RankRoster x = alike(2, 0, 0);
             x.wish(1, 4, 0);
