@@ -1041,6 +1041,8 @@ public final class BoundaryGivingTest {
         Cases.refusal("nothing is given: STATE", STATE, Cases::month, x -> x.who(0));
         Cases.refusal("NONE ahead of STATE", NONE, Cases::month, x -> x.who(3));
         Cases.look("an open one: NONE", NONE, () -> given(alike(2, 0, 0, 0)), x -> x.who(2));
+        Cases.look("an open one where there are 4 people: NONE", NONE, () -> given(alike(4, 0, 0, 0, 0, 0)),
+            x -> x.who(4));
         Cases.look("where there is nobody: NONE", NONE, () -> given(alike(0, 0)), x -> x.who(0));
         Cases.look("duty 0: the first one", 0, Cases::givenMonth, x -> x.who(0));
         Cases.look("the last duty: the last one", 1, Cases::givenMonth, x -> x.who(2));
